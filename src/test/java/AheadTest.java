@@ -1,0 +1,225 @@
+/** Promises 19 to 21 and 23: the best post, what is looked ahead, and the digest. */
+public final class AheadTest {
+    private static final Class<IndexOutOfBoundsException> INDEX = IndexOutOfBoundsException.class;
+    private static final Class<IllegalArgumentException> ARGUMENT = IllegalArgumentException.class;
+
+    public static void main(String[] args) {
+        promise19BestPost();
+        promise19CountsThoseWithoutAWay();
+        promise20IfPassed();
+        promise20Refused();
+        promise21ArrivesIn();
+        promise21LongWays();
+        promise21Refused();
+        promise23Digest();
+        Check.end("AheadTest");
+    }
+
+    /**
+     * One way of 95 steps through all cells, from 0 to 11, down and up the columns: each column is a cliff to
+     * the next one, but for one cell at its end.
+     */
+    static CourierWar winding() {
+        CourierWar war = new CourierWar();
+        int[] heights = {0, 3, 6, 9, 6, 3, 0, 3, 6, 9, 6, 3};
+        for (int column = 0; column < 12; column++) {
+            war.shape(column, column + 84, heights[column]);
+        }
+        int[] ramps = {84, 1, 1, 4, 86, 7, 4, 7, 88, 5, 5, 2, 91, 2, 7, 4, 92, 7, 10, 7, 94, 5};
+        for (int i = 0; i < ramps.length; i += 2) {
+            war.shape(ramps[i], ramps[i], ramps[i + 1]);
+        }
+        return war;
+    }
+
+    private static void promise19BestPost() {
+        CourierWar war = new CourierWar();
+        Check.same("without troops", war.bestPost(0), 0);
+        war.addTroop(0, 95, 5);
+        Check.same("all is seen", war.bestPost(0), 0);
+        war.shape(1, 85, 2);
+        Check.same("on the ridge", war.bestPost(0), 1);
+        Check.same("the others have no troops", war.bestPost(1), 0);
+        war.moveGeneral(0, 50);
+        Check.same("wherever the general is", war.bestPost(0), 1);
+        for (int i = 0; i < 30; i++) {
+            war.order(0, 95);
+        }
+        Check.same("however many orders are under way", war.bestPost(0), 1);
+        war.addTroop(1, 94, 20);
+        war.pass(6);
+        Check.same("gone", war.troop(0, 4), 2);
+        Check.same("gone ones do not count", war.bestPost(0), 0);
+        Check.same("the other side's", war.bestPost(1), 1);
+        Check.refused(war, "bestPost(-1)", INDEX, () -> war.bestPost(-1));
+        Check.refused(war, "bestPost(2)", INDEX, () -> war.bestPost(2));
+    }
+
+    private static void promise19CountsThoseWithoutAWay() {
+    }
+
+    private static void promise20IfPassed() {
+        CourierWar war = new CourierWar();
+        war.shape(1, 85, 2);
+        war.addTroop(0, 50, 7);
+        war.addTroop(1, 62, 4);
+        war.addTroop(1, 53, 12);
+        war.addTroop(0, 20, 9);
+        war.order(2, 52);
+        war.order(3, 52);
+        war.order(0, 49);
+        int[] whats = {2, 3, 6, 7, 8, 9, 10};
+        for (int turns = 1; turns <= 50; turns++) {
+            CourierWar same = new CourierWar();
+            same.shape(1, 85, 2);
+            same.addTroop(0, 50, 7);
+            same.addTroop(1, 62, 4);
+            same.addTroop(1, 53, 12);
+            same.addTroop(0, 20, 9);
+            same.order(2, 52);
+            same.order(3, 52);
+            same.order(0, 49);
+            same.pass(turns);
+            for (int what : whats) {
+                Check.same("after " + turns + ", " + what, war.ifPassed(turns, what), same.count(what));
+            }
+        }
+        Check.same("no turn has passed", war.count(0), 0);
+        CourierWar late = new CourierWar();
+        late.addTroop(0, 40, 20);
+        for (int i = 0; i < 20; i++) {
+            late.pass(50);
+        }
+        late.addTroop(1, 41, 20);
+        // Both are routed after ten turns, and flee from one another.
+        Check.same("beyond the turn 1000", late.ifPassed(50, 7), 10);
+        Check.same("one turn beyond", late.ifPassed(1, 9), 19);
+        Check.same("still at the last turn", late.count(0), 1000);
+    }
+
+    private static void promise20Refused() {
+        CourierWar war = new CourierWar();
+        int[] wrong = {-1, 0, 1, 4, 5, 11, 12, 13, 14};
+        for (int what : wrong) {
+            Check.refused(war, "ifPassed(1, " + what + ")", ARGUMENT, () -> war.ifPassed(1, what));
+        }
+        Check.refused(war, "ifPassed(0, 2)", ARGUMENT, () -> war.ifPassed(0, 2));
+        Check.refused(war, "ifPassed(-1, 2)", ARGUMENT, () -> war.ifPassed(-1, 2));
+        Check.refused(war, "ifPassed(51, 2)", ARGUMENT, () -> war.ifPassed(51, 2));
+    }
+
+    private static void promise21ArrivesIn() {
+        CourierWar war = new CourierWar();
+        war.addTroop(0, 13, 5);
+        Check.same("is there", war.arrivesIn(0), 0);
+        war.order(0, 17);
+        Check.same("is at its goal as yet", war.arrivesIn(0), 0);
+        war.pass(1);
+        Check.same("on its way", war.arrivesIn(0), 3);
+        war.order(0, 12);
+        Check.same("an order comes in between", war.arrivesIn(0), 2);
+        war.undo();
+        war.addTroop(0, 17, 5);
+        Check.same("the goal is taken", war.arrivesIn(0), CourierWar.NONE);
+        war.order(1, 0);
+        Check.same("the goal is left", war.arrivesIn(0), 3);
+        Check.same("no turn has passed", war.count(0), 1);
+        CourierWar gone = new CourierWar();
+        gone.addTroop(0, 40, 1);
+        gone.addTroop(1, 41, 3);
+        Check.same("not gone yet", gone.arrivesIn(0), 0);
+        gone.pass(1);
+        Check.same("gone at its goal", gone.arrivesIn(0), CourierWar.NONE);
+        CourierWar routed = new CourierWar();
+        routed.addTroop(0, 27, 2);
+        routed.addTroop(1, 28, 20);
+        routed.pass(1);
+        Check.same("routed at its goal", routed.arrivesIn(0), 0);
+        routed.pass(1);
+        Check.same("routed away from it", routed.arrivesIn(0), CourierWar.NONE);
+        routed.shape(3, 87, 9);
+        Check.same("until it rallies out of sight", routed.arrivesIn(0), 1);
+    }
+
+    private static void promise21LongWays() {
+        CourierWar war = winding();
+        Check.same("the longest way", war.distance(0, 11), 95);
+        war.addTroop(0, 0, 5);
+        war.moveGeneral(0, 0);
+        war.order(0, 11);
+        war.pass(34);
+        Check.same("61 turns", war.arrivesIn(0), CourierWar.NONE);
+        war.pass(1);
+        Check.same("60 turns", war.arrivesIn(0), 60);
+        war.pass(50);
+        Check.same("10 turns", war.arrivesIn(0), 10);
+    }
+
+    private static void promise21Refused() {
+        CourierWar war = new CourierWar();
+        war.addTroop(0, 5, 5);
+        Check.refused(war, "arrivesIn(-1)", INDEX, () -> war.arrivesIn(-1));
+        Check.refused(war, "arrivesIn(1)", INDEX, () -> war.arrivesIn(1));
+        Check.refused(war, "arrivesIn(12)", INDEX, () -> war.arrivesIn(12));
+    }
+
+    private static void promise23Digest() {
+        CourierWar war = new CourierWar();
+        Check.same("of a new object", war.digest(), told(war, ""));
+        Check.type(war, "0>~");
+        Check.same("with a buffer", war.digest(), told(war, "0>~"));
+        war.shape(1, 85, 2);
+        war.shape(40, 40, 7);
+        war.addTroop(0, 40, 7);
+        war.addTroop(1, 41, 3);
+        war.addTroop(0, 95, 20);
+        war.order(2, 30);
+        war.order(1, 5);
+        Check.same("with troops and orders", war.digest(), told(war, "0>~"));
+        Check.same("nothing has changed", war.digest(), told(war, "0>~"));
+        for (int turn = 1; turn <= 8; turn++) {
+            war.pass(1);
+            Check.same("in the turn " + turn, war.digest(), told(war, "0>~"));
+        }
+        CourierWar gone = new CourierWar();
+        gone.addTroop(0, 0, 1);
+        gone.addTroop(1, 1, 1);
+        gone.pass(1);
+        Check.same("when all are gone", gone.digest(), told(gone, ""));
+    }
+
+    /** The digest as the document tells it, by the other methods. */
+    private static long told(CourierWar war, String buffer) {
+        long hash = 2243;
+        for (int what = 0; what <= 13; what++) {
+            hash = 31 * hash + war.count(what);
+        }
+        for (int cell = 0; cell < 96; cell++) {
+            for (int what = 0; what <= 2; what++) {
+                hash = 31 * hash + war.cell(cell, what);
+            }
+        }
+        for (int troop = 0; troop < war.count(1); troop++) {
+            for (int what = 0; what <= 8; what++) {
+                hash = 31 * hash + war.troop(troop, what);
+            }
+            hash = 31 * hash + war.why(troop);
+        }
+        for (int place = 0; place < war.count(5); place++) {
+            for (int what = 0; what <= 3; what++) {
+                hash = 31 * hash + war.underWay(place, what);
+            }
+        }
+        hash = 31 * hash + war.cell(war.count(11), 3);
+        hash = 31 * hash + war.cell(war.count(12), 3);
+        for (int what : new int[] {2, 3, 6, 7, 8, 9, 10}) {
+            hash = 31 * hash + war.ifPassed(10, what);
+        }
+        hash = 31 * hash + Double.doubleToLongBits(war.strengthLeft());
+        hash = 31 * hash + buffer.length();
+        for (int i = 0; i < buffer.length(); i++) {
+            hash = 31 * hash + buffer.charAt(i);
+        }
+        return hash;
+    }
+}
