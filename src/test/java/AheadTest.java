@@ -55,7 +55,21 @@ public final class AheadTest {
         Check.refused(war, "bestPost(2)", INDEX, () -> war.bestPost(2));
     }
 
+    /** The way is cut at 24: none leads from the troop at 0 to the two others, which are far from each other. */
     private static void promise19CountsThoseWithoutAWay() {
+        // With 19 turns for those without a way the cell 24 would be best in the first, with 21 the cell 3 in both.
+        Check.same("as good as beyond the cut", cut(83).bestPost(0), 3);
+        Check.same("better on the cut", cut(47).bestPost(0), 24);
+    }
+
+    private static CourierWar cut(int farTroop) {
+        CourierWar war = winding();
+        war.shape(24, 24, 9);
+        war.addTroop(0, 0, 5);
+        war.addTroop(0, 36, 5);
+        war.addTroop(0, farTroop, 5);
+        Check.same("no way", war.distance(0, 36), CourierWar.NONE);
+        return war;
     }
 
     private static void promise20IfPassed() {
