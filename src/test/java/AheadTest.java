@@ -39,6 +39,12 @@ public final class AheadTest {
         Check.same("all is seen", war.bestPost(0), 0);
         war.shape(1, 85, 2);
         Check.same("on the ridge", war.bestPost(0), 1);
+        CourierWar near = new CourierWar();
+        near.shape(1, 85, 2);
+        near.addTroop(0, 4, 5);
+        near.addTroop(1, 2, 5);
+        Check.same("a courier takes 2 turns to 4", near.bestPost(0), 1);
+        Check.same("a courier takes 1 turn to 2", near.bestPost(1), 0);
         Check.same("the others have no troops", war.bestPost(1), 0);
         war.moveGeneral(0, 50);
         Check.same("wherever the general is", war.bestPost(0), 1);
@@ -177,29 +183,49 @@ public final class AheadTest {
         Check.refused(war, "arrivesIn(12)", INDEX, () -> war.arrivesIn(12));
     }
 
+    /** An object for each digest, as it is told by some 350 calls and no more than 512 are promised. */
     private static void promise23Digest() {
-        CourierWar war = new CourierWar();
-        Check.same("of a new object", war.digest(), told(war, ""));
-        Check.type(war, "0>~");
-        Check.same("with a buffer", war.digest(), told(war, "0>~"));
-        war.shape(1, 85, 2);
-        war.shape(40, 40, 7);
-        war.addTroop(0, 40, 7);
-        war.addTroop(1, 41, 3);
-        war.addTroop(0, 95, 20);
-        war.order(2, 30);
-        war.order(1, 5);
-        Check.same("with troops and orders", war.digest(), told(war, "0>~"));
-        Check.same("nothing has changed", war.digest(), told(war, "0>~"));
-        for (int turn = 1; turn <= 8; turn++) {
-            war.pass(1);
-            Check.same("in the turn " + turn, war.digest(), told(war, "0>~"));
+        digest("of a new object", new CourierWar(), "");
+        CourierWar typed = new CourierWar();
+        Check.type(typed, "0>~");
+        digest("with a buffer", typed, "0>~");
+        for (int turns = 0; turns <= 8; turns++) {
+            CourierWar war = new CourierWar();
+            Check.type(war, "!~");
+            war.shape(1, 85, 2);
+            war.shape(40, 40, 7);
+            war.addTroop(0, 40, 7);
+            war.addTroop(1, 41, 3);
+            war.addTroop(0, 95, 20);
+            war.order(2, 30);
+            war.order(1, 5);
+            for (int i = 0; i < turns; i++) {
+                war.pass(1);
+            }
+            digest("after " + turns + " turns", war, "!~");
         }
-        CourierWar gone = new CourierWar();
-        gone.addTroop(0, 0, 1);
-        gone.addTroop(1, 1, 1);
-        gone.pass(1);
-        Check.same("when all are gone", gone.digest(), told(gone, ""));
+        for (int turns = 1; turns <= 22; turns++) {
+            CourierWar pit = pit();
+            pit.pass(turns);
+            Check.same("share after " + turns, pit.strengthLeft(), Math.max(0, 20 - turns) / 20.0);
+            digest("in the pit after " + turns, pit, "");
+        }
+    }
+
+    private static void digest(String what, CourierWar war, String buffer) {
+        long first = war.digest();
+        Check.same(what, first, told(war, buffer));
+        Check.same(what + ", once more", war.digest(), first);
+    }
+
+    /** Two troops that lose 1 each in each of 20 turns, as cliffs let neither of them flee. */
+    private static CourierWar pit() {
+        CourierWar war = new CourierWar();
+        war.shape(39, 42, 9);
+        war.shape(40, 41, 0);
+        war.addTroop(0, 40, 20);
+        war.addTroop(1, 41, 20);
+        return war;
     }
 
     /** The digest as the document tells it, by the other methods. */

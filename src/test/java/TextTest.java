@@ -104,6 +104,12 @@ public final class TextTest {
                 Check.same("goal", war.underWay(column, 2), 12 * row + 11 - column);
             }
         }
+        CourierWar shorter = new CourierWar();
+        shorter.addTroop(0, 5, 5);
+        Check.type(shorter, "0>10,1;0>2,2");
+        Check.same("given", shorter.load(), 2);
+        Check.type(shorter, "0>3,3");
+        Check.same("no more than there are", shorter.load(), 1);
         CourierWar full = new CourierWar();
         full.addTroop(0, 5, 5);
         Check.type(full, "0>0,0;0>1,0;0>2,0;0>3,0;0>4,0;0>5,0;0>6,0;0>7,0;0>8,0;0>10,0");

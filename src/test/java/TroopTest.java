@@ -36,6 +36,14 @@ public final class TroopTest {
         }
         Check.refused(war, "a troop too many", STATE, () -> war.addTroop(0, 90, 1));
         Check.refused(war, "too many and too strong", ARGUMENT, () -> war.addTroop(0, 90, 21));
+        for (int i = 0; i < 12; i++) {
+            Check.same("all can be asked", war.troop(i, 0), i % 2);
+            Check.same("all can be ordered", war.order(i, 95 - i), 1);
+            Check.same("all are at their goals", war.arrivesIn(i), 0);
+        }
+        Check.same("the best post for six", war.bestPost(1), 0);
+        war.pass(50);
+        Check.same("the orders have come", war.count(5), 0);
         CourierWar fallen = new CourierWar();
         for (int i = 0; i < 12; i++) {
             fallen.addTroop(i % 2, i, 1);
@@ -101,20 +109,21 @@ public final class TroopTest {
 
     private static void promise15Count() {
         CourierWar war = new CourierWar();
-        war.addTroop(0, 40, 5);
+        war.shape(39, 39, 1);
+        war.addTroop(0, 40, 9);
         war.addTroop(1, 41, 2);
         war.addTroop(1, 39, 1);
         war.moveGeneral(0, 3);
         war.order(2, 39);
         war.order(0, 40);
         war.pass(1);
-        // Troop 0 loses 2 of 5, troop 1 loses 1 of 2 and is routed, troop 2 is gone.
-        check(war, 1, 3, 2, 1, 2, 0, 0, 2, 2, 3, 1, 3, 95, 5);
+        // Troop 0 loses 3 of 9, troop 1 loses 1 of 2 and is routed, troop 2 is gone.
+        check(war, 1, 3, 2, 1, 2, 0, 0, 3, 2, 6, 1, 3, 95, 5);
         war.order(0, 52);
         war.order(1, 11);
-        check(war, 1, 3, 2, 1, 4, 2, 0, 2, 2, 3, 1, 3, 95, 5);
+        check(war, 1, 3, 2, 1, 4, 2, 0, 3, 2, 6, 1, 3, 95, 5);
         war.pass(1);
-        check(war, 2, 3, 2, 1, 4, 0, 1, 2, 2, 3, 1, 3, 95, 5);
+        check(war, 2, 3, 2, 1, 4, 0, 1, 3, 2, 6, 1, 3, 95, 5);
         Check.refused(war, "count(-1)", ARGUMENT, () -> war.count(-1));
         Check.refused(war, "count(14)", ARGUMENT, () -> war.count(14));
     }

@@ -84,6 +84,9 @@ public final class TurnTest {
         CourierWar war = sent(0, 2);
         war.addTroop(0, 1, 9);
         walks(war, 0, 12, 13, 14, 2, 2);
+        CourierWar before = new CourierWar();
+        before.addTroop(0, 1, 9);
+        walks(before, send(before, 0, 2), 12, 13, 14, 2);
         CourierWar enemies = sent(0, 3);
         enemies.addTroop(1, 2, 9);
         walks(enemies, 0, 1);
@@ -298,6 +301,15 @@ public final class TurnTest {
         Check.same("the order was lost", won.count(6), 1);
         won.pass(1);
         Check.same("it stays", won.troop(0, 1), 26);
+        Check.same("and steady, as it lost nothing again", won.troop(0, 4), 0);
+        CourierWar other = new CourierWar();
+        other.addTroop(1, 20, 4);
+        other.addTroop(0, 8, 1);
+        other.addTroop(0, 32, 1);
+        Check.same("lost", other.pass(1), 4);
+        Check.same("routed at", 10 * other.troop(0, 1) + other.troop(0, 4), 201);
+        other.pass(1);
+        Check.same("steady at", 10 * other.troop(0, 1) + other.troop(0, 4), 210);
     }
 
     private static void losesOrders() {

@@ -59,6 +59,13 @@ public final class UndoTest {
         war.undo();
         war.undo();
         Check.same("two steps back", war.digest(), before);
+        CourierWar routed = new CourierWar();
+        routed.addTroop(0, 27, 2);
+        routed.addTroop(1, 28, 20);
+        routed.pass(1);
+        routed.order(0, 30);
+        Check.undoable(routed, "pass that loses an order", () -> routed.pass(1));
+        Check.same("not lost", routed.count(6), 0);
     }
 
     private static void leavesTheBuffer() {
