@@ -4,35 +4,10 @@ public final class AheadTest {
     private static final Class<IllegalArgumentException> ARGUMENT = IllegalArgumentException.class;
 
     public static void main(String[] args) {
-        promise19BestPost();
-        promise19CountsThoseWithoutAWay();
-        promise20IfPassed();
-        promise20Refused();
-        promise21ArrivesIn();
-        promise21LongWays();
-        promise21Refused();
-        promise23Digest();
-        Check.end("AheadTest");
+        Check.all(AheadTest.class);
     }
 
-    /**
-     * One way of 95 steps through all cells, from 0 to 11, down and up the columns: each column is a cliff to
-     * the next one, but for one cell at its end.
-     */
-    static CourierWar winding() {
-        CourierWar war = new CourierWar();
-        int[] heights = {0, 3, 6, 9, 6, 3, 0, 3, 6, 9, 6, 3};
-        for (int column = 0; column < 12; column++) {
-            war.shape(column, column + 84, heights[column]);
-        }
-        int[] ramps = {84, 1, 1, 4, 86, 7, 4, 7, 88, 5, 5, 2, 91, 2, 7, 4, 92, 7, 10, 7, 94, 5};
-        for (int i = 0; i < ramps.length; i += 2) {
-            war.shape(ramps[i], ramps[i], ramps[i + 1]);
-        }
-        return war;
-    }
-
-    private static void promise19BestPost() {
+    static void promise19BestPost() {
         CourierWar war = new CourierWar();
         Check.same("without troops", war.bestPost(0), 0);
         war.addTroop(0, 95, 5);
@@ -62,14 +37,14 @@ public final class AheadTest {
     }
 
     /** The way is cut at 24: none leads from the troop at 0 to the two others, which are far from each other. */
-    private static void promise19CountsThoseWithoutAWay() {
+    static void promise19CountsThoseWithoutAWay() {
         // With 19 turns for those without a way the cell 24 would be best in the first, with 21 the cell 3 in both.
         Check.same("as good as beyond the cut", cut(83).bestPost(0), 3);
         Check.same("better on the cut", cut(47).bestPost(0), 24);
     }
 
     private static CourierWar cut(int farTroop) {
-        CourierWar war = winding();
+        CourierWar war = Scenes.winding();
         war.shape(24, 24, 9);
         war.addTroop(0, 0, 5);
         war.addTroop(0, 36, 5);
@@ -78,7 +53,7 @@ public final class AheadTest {
         return war;
     }
 
-    private static void promise20IfPassed() {
+    static void promise20IfPassed() {
         CourierWar war = new CourierWar();
         war.shape(1, 85, 2);
         war.addTroop(0, 50, 7);
@@ -117,7 +92,7 @@ public final class AheadTest {
         Check.same("still at the last turn", late.count(0), 1000);
     }
 
-    private static void promise20Refused() {
+    static void promise20Refused() {
         CourierWar war = new CourierWar();
         int[] wrong = {-1, 0, 1, 4, 5, 11, 12, 13, 14};
         for (int what : wrong) {
@@ -128,7 +103,7 @@ public final class AheadTest {
         Check.refused(war, "ifPassed(51, 2)", ARGUMENT, () -> war.ifPassed(51, 2));
     }
 
-    private static void promise21ArrivesIn() {
+    static void promise21ArrivesIn() {
         CourierWar war = new CourierWar();
         war.addTroop(0, 13, 5);
         Check.same("is there", war.arrivesIn(0), 0);
@@ -161,8 +136,8 @@ public final class AheadTest {
         Check.same("until it rallies out of sight", routed.arrivesIn(0), 1);
     }
 
-    private static void promise21LongWays() {
-        CourierWar war = winding();
+    static void promise21LongWays() {
+        CourierWar war = Scenes.winding();
         Check.same("the longest way", war.distance(0, 11), 95);
         war.addTroop(0, 0, 5);
         war.moveGeneral(0, 0);
@@ -175,7 +150,7 @@ public final class AheadTest {
         Check.same("10 turns", war.arrivesIn(0), 10);
     }
 
-    private static void promise21Refused() {
+    static void promise21Refused() {
         CourierWar war = new CourierWar();
         war.addTroop(0, 5, 5);
         Check.refused(war, "arrivesIn(-1)", INDEX, () -> war.arrivesIn(-1));
@@ -184,7 +159,7 @@ public final class AheadTest {
     }
 
     /** An object for each digest, as it is told by some 350 calls and no more than 512 are promised. */
-    private static void promise23Digest() {
+    static void promise23Digest() {
         digest("of a new object", new CourierWar(), "");
         CourierWar typed = new CourierWar();
         Check.type(typed, "0>~");
@@ -205,7 +180,7 @@ public final class AheadTest {
             digest("after " + turns + " turns", war, "!~");
         }
         for (int turns = 1; turns <= 22; turns++) {
-            CourierWar pit = pit();
+            CourierWar pit = Scenes.pit();
             pit.pass(turns);
             Check.same("share after " + turns, pit.strengthLeft(), Math.max(0, 20 - turns) / 20.0);
             digest("in the pit after " + turns, pit, "");
@@ -216,16 +191,6 @@ public final class AheadTest {
         long first = war.digest();
         Check.same(what, first, told(war, buffer));
         Check.same(what + ", once more", war.digest(), first);
-    }
-
-    /** Two troops that lose 1 each in each of 20 turns, as cliffs let neither of them flee. */
-    private static CourierWar pit() {
-        CourierWar war = new CourierWar();
-        war.shape(39, 42, 9);
-        war.shape(40, 41, 0);
-        war.addTroop(0, 40, 20);
-        war.addTroop(1, 41, 20);
-        return war;
     }
 
     /** The digest as the document tells it, by the other methods. */

@@ -1,9 +1,46 @@
+import java.lang.reflect.InvocationTargetException;
+import java.lang.reflect.Method;
+import java.util.Arrays;
+import java.util.Comparator;
+import java.util.function.IntConsumer;
+
 /** What the tests share: they tell each answer that is not the one that is due. */
 final class Check {
     private static int asked;
     private static int wrong;
 
     private Check() {
+    }
+
+    /** Runs each method whose name begins with its promise, so that none is forgotten, and ends the program. */
+    static void all(Class<?> test) {
+        Method[] methods = test.getDeclaredMethods();
+        Arrays.sort(methods, Comparator.comparing(Method::getName));
+        for (Method method : methods) {
+            if (method.getName().startsWith("promise")) {
+                run(method);
+            }
+        }
+        end(test.getSimpleName());
+    }
+
+    private static void run(Method method) {
+        int askedBefore = asked;
+        int wrongBefore = wrong;
+        try {
+            method.invoke(null);
+        } catch (InvocationTargetException e) {
+            tell("throws " + e.getCause());
+        } catch (IllegalAccessException e) {
+            tell("can't be run: " + e);
+        }
+        if (asked == askedBefore) {
+            tell("asks nothing");
+        }
+        if (wrong > wrongBefore) {
+            Says says = method.getAnnotation(Says.class);
+            System.out.println("  in " + method.getName() + (says == null ? "" : ": " + says.value()));
+        }
     }
 
     static void same(String what, long got, long due) {
@@ -32,6 +69,14 @@ final class Check {
         long before = war.digest();
         same(what + " throws " + due.getSimpleName(), thrown(call) == due ? 1 : 0, 1);
         same(what + " changes nothing", war.digest(), before);
+    }
+
+    /** The call is refused with each of the values. */
+    static void refusedWith(CourierWar war, String what, Class<? extends RuntimeException> due, IntConsumer call,
+            int... values) {
+        for (int value : values) {
+            refused(war, what + " " + value, due, () -> call.accept(value));
+        }
     }
 
     static Class<?> thrown(Runnable call) {

@@ -4,18 +4,10 @@ public final class FieldTest {
     private static final Class<IllegalArgumentException> ARGUMENT = IllegalArgumentException.class;
 
     public static void main(String[] args) {
-        promise1NewObject();
-        promise2Shape();
-        promise2ShapeRefused();
-        promise3MoveGeneral();
-        promise12Cell();
-        promise16SeesOverWalls();
-        promise16SeesBesideTheLine();
-        promise17Distance();
-        Check.end("FieldTest");
+        Check.all(FieldTest.class);
     }
 
-    private static void promise1NewObject() {
+    static void promise1NewObject() {
         CourierWar war = new CourierWar();
         Check.same("NONE", CourierWar.NONE, -1);
         for (int cell = 0; cell < 96; cell++) {
@@ -31,7 +23,7 @@ public final class FieldTest {
         Check.same("share", war.strengthLeft(), 1.0);
     }
 
-    private static void promise2Shape() {
+    static void promise2Shape() {
         CourierWar war = new CourierWar();
         Check.same("a block of 2 by 2", war.shape(13, 26, 5), 4);
         Check.same("the same again", war.shape(13, 26, 5), 0);
@@ -55,7 +47,7 @@ public final class FieldTest {
         Check.undoable(other, "shape without change", () -> other.shape(13, 26, 0));
     }
 
-    private static void promise2ShapeRefused() {
+    static void promise2ShapeRefused() {
         CourierWar war = new CourierWar();
         Check.refused(war, "shape(-1, 5, 0)", INDEX, () -> war.shape(-1, 5, 0));
         Check.refused(war, "shape(96, 96, 0)", INDEX, () -> war.shape(96, 96, 0));
@@ -69,7 +61,7 @@ public final class FieldTest {
                 () -> war.shape(Integer.MIN_VALUE, Integer.MAX_VALUE, Integer.MIN_VALUE));
     }
 
-    private static void promise3MoveGeneral() {
+    static void promise3MoveGeneral() {
         CourierWar war = new CourierWar();
         Check.same("side 0 from its first cell", war.moveGeneral(0, 40), 0);
         Check.same("side 1 from its first cell", war.moveGeneral(1, 40), 95);
@@ -88,7 +80,7 @@ public final class FieldTest {
         Check.refused(other, "moveGeneral(1, 96)", INDEX, () -> other.moveGeneral(1, 96));
     }
 
-    private static void promise12Cell() {
+    static void promise12Cell() {
         CourierWar war = new CourierWar();
         int[] exits = {0, 2, 11, 2, 84, 2, 95, 2, 5, 3, 12, 3, 23, 3, 90, 3, 13, 4, 82, 4};
         for (int i = 0; i < exits.length; i += 2) {
@@ -112,10 +104,9 @@ public final class FieldTest {
         Check.refused(war, "cell(96, 9)", INDEX, () -> war.cell(96, 9));
         Check.refused(war, "cell(0, -1)", ARGUMENT, () -> war.cell(0, -1));
         Check.refused(war, "cell(0, 4)", ARGUMENT, () -> war.cell(0, 4));
-        promise12CellsSeen();
     }
 
-    private static void promise12CellsSeen() {
+    static void promise12CellsSeen() {
         CourierWar war = new CourierWar();
         war.shape(1, 1, 9);
         war.shape(13, 13, 9);
@@ -126,7 +117,7 @@ public final class FieldTest {
         Check.same("as high as the cliffs", war.cell(0, 3), 4 + 3 * 8);
     }
 
-    private static void promise16SeesOverWalls() {
+    static void promise16SeesOverWalls() {
         CourierWar war = new CourierWar();
         Check.holds("a cell sees itself", war.sees(5, 5));
         Check.holds("flat", war.sees(0, 95));
@@ -157,7 +148,7 @@ public final class FieldTest {
         Check.refused(war, "sees(0, 96)", INDEX, () -> war.sees(0, 96));
     }
 
-    private static void promise16SeesBesideTheLine() {
+    static void promise16SeesBesideTheLine() {
         // Each row: a cell, another one, and all cells in between; a cliff anywhere else is not in the way.
         int[][] lines = {
             {0, 14, 13}, {2, 12, 13}, {0, 25, 13}, {1, 24, 13}, {0, 26, 13}, {2, 24, 13}, {0, 36, 12, 24},
@@ -182,7 +173,7 @@ public final class FieldTest {
         }
     }
 
-    private static void promise17Distance() {
+    static void promise17Distance() {
         CourierWar war = new CourierWar();
         Check.same("to itself", war.distance(7, 7), 0);
         Check.same("beside", war.distance(7, 8), 1);

@@ -5,55 +5,31 @@ public final class OrderTest {
     private static final Class<IllegalStateException> STATE = IllegalStateException.class;
 
     public static void main(String[] args) {
-        promise5BySignal();
-        promise5ByCourier();
-        promise5AsTheTroopStandsNow();
-        promise5Comes();
-        promise5Undoable();
-        promise5Refused();
-        promise5ThirtyUnderWay();
-        promise14UnderWay();
-        promise14Refused();
-        promise18Why();
-        Check.end("OrderTest");
+        Check.all(OrderTest.class);
     }
 
-    /** A ridge of the height 2 down the column 1: no sight over it from the column 0, but a way. */
-    private static CourierWar withRidge() {
-        CourierWar war = new CourierWar();
-        war.shape(1, 85, 2);
-        return war;
-    }
-
-    /** A wall of the height 9 down the column 1: no sight over it from the column 0, and no way. */
-    private static CourierWar withWall() {
-        CourierWar war = new CourierWar();
-        war.shape(1, 85, 9);
-        return war;
-    }
-
-    private static void promise5BySignal() {
+    static void promise5BySignal() {
         CourierWar war = new CourierWar();
         war.addTroop(0, 95, 5);
         war.addTroop(1, 0, 5);
         Check.same("far, but seen by the side 0", war.order(0, 3), 1);
         Check.same("far, but seen by the side 1", war.order(1, 3), 1);
-        CourierWar walled = withWall();
+        CourierWar walled = Scenes.wall();
         walled.addTroop(0, 1, 5);
         Check.same("seen on the wall, without a way", walled.order(0, 95), 1);
         Check.same("to a goal without a way", walled.order(0, 0), 1);
     }
 
-    private static void promise5ByCourier() {
+    static void promise5ByCourier() {
         int[] turns = {1, 1, 2, 1, 3, 1, 4, 2, 5, 2, 6, 2, 7, 3, 9, 3, 10, 4, 11, 4, 95, 6, 0, 1, 84, 1};
         for (int i = 0; i < turns.length; i += 2) {
-            CourierWar war = withRidge();
+            CourierWar war = Scenes.ridge();
             war.addTroop(0, turns[i], 5);
             Check.same("a courier to " + turns[i], war.order(0, 40), turns[i + 1]);
             Check.same("comes in the turn", war.underWay(0, 3), turns[i + 1]);
             Check.same("given", war.count(4), 1);
         }
-        CourierWar war = withRidge();
+        CourierWar war = Scenes.ridge();
         war.addTroop(1, 12, 5);
         war.addTroop(0, 14, 5);
         war.addTroop(0, 11, 5);
@@ -61,8 +37,8 @@ public final class OrderTest {
         Check.same("from the general of the side 0, past the others", war.order(2, 40), 4);
     }
 
-    private static void promise5AsTheTroopStandsNow() {
-        CourierWar war = withRidge();
+    static void promise5AsTheTroopStandsNow() {
+        CourierWar war = Scenes.ridge();
         war.addTroop(0, 95, 5);
         Check.same("far off", war.order(0, 94), 6);
         war.moveGeneral(0, 94);
@@ -74,8 +50,8 @@ public final class OrderTest {
         Check.same("the first one came late", war.troop(0, 3), 94);
     }
 
-    private static void promise5Comes() {
-        CourierWar war = withRidge();
+    static void promise5Comes() {
+        CourierWar war = Scenes.ridge();
         war.addTroop(0, 4, 5);
         war.pass(3);
         Check.same("takes", war.order(0, 6), 2);
@@ -91,8 +67,8 @@ public final class OrderTest {
         Check.same("none lost", war.count(6), 0);
     }
 
-    private static void promise5Undoable() {
-        CourierWar war = withRidge();
+    static void promise5Undoable() {
+        CourierWar war = Scenes.ridge();
         war.addTroop(0, 4, 5);
         Check.undoable(war, "order", () -> war.order(0, 6));
         Check.undoable(war, "order to stay", () -> war.order(0, 4));
@@ -102,8 +78,8 @@ public final class OrderTest {
         Check.same("the number is given anew", war.underWay(0, 0), 0);
     }
 
-    private static void promise5Refused() {
-        CourierWar war = withWall();
+    static void promise5Refused() {
+        CourierWar war = Scenes.wall();
         war.addTroop(0, 2, 5);
         war.addTroop(1, 50, 1);
         war.addTroop(0, 51, 20);
@@ -116,8 +92,8 @@ public final class OrderTest {
         Check.refused(war, "cell 96 without a way", INDEX, () -> war.order(0, 96));
     }
 
-    private static void promise5ThirtyUnderWay() {
-        CourierWar war = withRidge();
+    static void promise5ThirtyUnderWay() {
+        CourierWar war = Scenes.ridge();
         war.addTroop(0, 95, 5);
         for (int i = 0; i < 30; i++) {
             Check.same("could be given", war.why(0), 0);
@@ -134,8 +110,8 @@ public final class OrderTest {
         Check.same("its number", war.underWay(0, 0), 30);
     }
 
-    private static void promise14UnderWay() {
-        CourierWar war = withRidge();
+    static void promise14UnderWay() {
+        CourierWar war = Scenes.ridge();
         int[] cells = {7, 3, 19, 4};
         for (int cell : cells) {
             war.addTroop(0, cell, 5);
@@ -167,8 +143,8 @@ public final class OrderTest {
         Check.same("no order behind", Check.thrown(() -> war.underWay(due.length, 0)) == INDEX ? 1 : 0, 1);
     }
 
-    private static void promise14Refused() {
-        CourierWar war = withRidge();
+    static void promise14Refused() {
+        CourierWar war = Scenes.ridge();
         Check.refused(war, "none at all", INDEX, () -> war.underWay(0, 0));
         war.addTroop(0, 5, 5);
         war.order(0, 5);
@@ -179,8 +155,8 @@ public final class OrderTest {
         Check.refused(war, "what 4", ARGUMENT, () -> war.underWay(0, 4));
     }
 
-    private static void promise18Why() {
-        CourierWar war = withWall();
+    static void promise18Why() {
+        CourierWar war = Scenes.wall();
         war.addTroop(0, 2, 5);
         war.addTroop(1, 50, 1);
         war.addTroop(0, 51, 20);

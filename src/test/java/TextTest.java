@@ -4,16 +4,7 @@ public final class TextTest {
     private static final Class<IllegalStateException> STATE = IllegalStateException.class;
 
     public static void main(String[] args) {
-        promise7Append();
-        promise8ClearBuffer();
-        promise9FirstError();
-        promise9EachCharacter();
-        promise10Load();
-        promise10AllTroopsAndCells();
-        promise10Stops();
-        promise10Incomplete();
-        promise10Undoable();
-        Check.end("TextTest");
+        Check.all(TextTest.class);
     }
 
     private static CourierWar with(String text) {
@@ -22,7 +13,7 @@ public final class TextTest {
         return war;
     }
 
-    private static void promise7Append() {
+    static void promise7Append() {
         CourierWar war = new CourierWar();
         Check.refused(war, "append(32)", ARGUMENT, () -> war.append(32));
         Check.refused(war, "append(127)", ARGUMENT, () -> war.append(127));
@@ -37,7 +28,7 @@ public final class TextTest {
         Check.same("the buffer", war.clearBuffer(), 60);
     }
 
-    private static void promise8ClearBuffer() {
+    static void promise8ClearBuffer() {
         CourierWar war = with("0>1,2");
         Check.same("clears", war.clearBuffer(), 5);
         Check.same("clears nothing", war.clearBuffer(), 0);
@@ -46,7 +37,7 @@ public final class TextTest {
         Check.same("no error", war.firstError(), 1);
     }
 
-    private static void promise9FirstError() {
+    static void promise9FirstError() {
         Object[] due = {
             "", 0, "0", 1, "1", 1, "9", 1, "10", 2, "11", 2, "12", 1, "19", 1, "00", 1, "01", 1, "20", 1, "110", 2,
             ">", 0, ",", 0, ";", 0, "a", 0, "-1", 0, "0;", 1, "0,", 1, "0>", 2, "0>>", 2, "0>,", 2, "0>;", 2,
@@ -60,7 +51,7 @@ public final class TextTest {
         }
     }
 
-    private static void promise9EachCharacter() {
+    static void promise9EachCharacter() {
         String[] may = {
             "", "0123456789", "0", ">", "1", "01>", "2", ">", "9", ">", "10", ">", "11", ">", "0>", "0123456789",
             "0>0", ",", "0>1", "01,", "0>2", ",", "0>9", ",", "0>10", ",", "0>11", ",", "0>1,", "01234567",
@@ -75,7 +66,7 @@ public final class TextTest {
         }
     }
 
-    private static void promise10Load() {
+    static void promise10Load() {
         CourierWar war = new CourierWar();
         war.addTroop(0, 5, 5);
         war.addTroop(1, 90, 5);
@@ -91,7 +82,7 @@ public final class TextTest {
         }
     }
 
-    private static void promise10AllTroopsAndCells() {
+    static void promise10AllTroopsAndCells() {
         for (int row = 0; row < 8; row++) {
             CourierWar war = new CourierWar();
             for (int troop = 0; troop < 12; troop++) {
@@ -118,7 +109,7 @@ public final class TextTest {
         Check.same("the last one", full.underWay(9, 2), 10);
     }
 
-    private static void promise10Stops() {
+    static void promise10Stops() {
         CourierWar war = new CourierWar();
         war.shape(1, 85, 2);
         war.addTroop(0, 95, 5);
@@ -144,7 +135,7 @@ public final class TextTest {
         Check.same("clear all the same", walled.clearBuffer(), 0);
     }
 
-    private static void promise10Incomplete() {
+    static void promise10Incomplete() {
         String[] texts = {"", "0", "0>1", "0>1,", "0>1,1;", "0>1,1;0>1,", "0>1,8", "x", "0>1,1x", "0>1,1;;0>1,1"};
         for (String text : texts) {
             CourierWar war = with(text);
@@ -154,7 +145,7 @@ public final class TextTest {
         }
     }
 
-    private static void promise10Undoable() {
+    static void promise10Undoable() {
         CourierWar war = with("0>1,1;0>2,2");
         war.addTroop(0, 5, 5);
         Check.same("given", war.load(), 2);

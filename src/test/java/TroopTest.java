@@ -5,17 +5,10 @@ public final class TroopTest {
     private static final Class<IllegalStateException> STATE = IllegalStateException.class;
 
     public static void main(String[] args) {
-        promise4AddTroop();
-        promise4Full();
-        promise4Refused();
-        promise13Troop();
-        promise13OrdersAndLosses();
-        promise15Count();
-        promise22StrengthLeft();
-        Check.end("TroopTest");
+        Check.all(TroopTest.class);
     }
 
-    private static void promise4AddTroop() {
+    static void promise4AddTroop() {
         CourierWar war = new CourierWar();
         Check.same("the first number", war.addTroop(1, 95, 1), 0);
         Check.same("the second number", war.addTroop(0, 94, 20), 1);
@@ -29,7 +22,7 @@ public final class TroopTest {
         Check.same("undone troops", other.count(1), 0);
     }
 
-    private static void promise4Full() {
+    static void promise4Full() {
         CourierWar war = new CourierWar();
         for (int i = 0; i < 12; i++) {
             Check.same("number", war.addTroop(i % 2, 5 * i, 1), i);
@@ -53,7 +46,7 @@ public final class TroopTest {
         Check.refused(fallen, "gone troops keep their numbers", STATE, () -> fallen.addTroop(0, 90, 1));
     }
 
-    private static void promise4Refused() {
+    static void promise4Refused() {
         CourierWar war = new CourierWar();
         war.addTroop(0, 50, 4);
         Check.refused(war, "side -1", INDEX, () -> war.addTroop(-1, 0, 1));
@@ -66,7 +59,7 @@ public final class TroopTest {
         Check.refused(war, "a cell that an enemy has", STATE, () -> war.addTroop(1, 50, 4));
     }
 
-    private static void promise13Troop() {
+    static void promise13Troop() {
         CourierWar war = new CourierWar();
         war.addTroop(1, 95, 13);
         int[] due = {1, 95, 13, 95, 0, 13, 0, 0, 0};
@@ -79,7 +72,7 @@ public final class TroopTest {
         Check.refused(war, "what 9", ARGUMENT, () -> war.troop(0, 9));
     }
 
-    private static void promise13OrdersAndLosses() {
+    static void promise13OrdersAndLosses() {
         CourierWar war = new CourierWar();
         war.addTroop(0, 40, 5);
         war.addTroop(1, 41, 2);
@@ -107,7 +100,7 @@ public final class TroopTest {
         Check.same("a new one lost nothing", war.troop(2, 6), 0);
     }
 
-    private static void promise15Count() {
+    static void promise15Count() {
         CourierWar war = new CourierWar();
         war.shape(39, 39, 1);
         war.addTroop(0, 40, 9);
@@ -134,7 +127,7 @@ public final class TroopTest {
         }
     }
 
-    private static void promise22StrengthLeft() {
+    static void promise22StrengthLeft() {
         CourierWar war = new CourierWar();
         Check.same("without troops", war.strengthLeft(), 1.0);
         war.addTroop(0, 40, 5);

@@ -4,26 +4,10 @@ public final class TurnTest {
     private static final Class<IllegalStateException> STATE = IllegalStateException.class;
 
     public static void main(String[] args) {
-        passesTurns();
-        refuses();
-        marchesByTheOrderOfNeighbours();
-        marchesRoundOthers();
-        marchesToATakenGoal();
-        marchesByNumbers();
-        marchesOverNoCliff();
-        marchesThroughWhereAGoneTroopWas();
-        fights();
-        fightsOnHeights();
-        fightsAllAtOnce();
-        isRouted();
-        fleesToItsSide();
-        fleesOnlyWhereItCan();
-        rallies();
-        losesOrders();
-        Check.end("TurnTest");
+        Check.all(TurnTest.class);
     }
 
-    private static void passesTurns() {
+    static void promise6Passes() {
         CourierWar war = new CourierWar();
         war.addTroop(0, 40, 20);
         war.addTroop(1, 41, 20);
@@ -33,7 +17,7 @@ public final class TurnTest {
         Check.undoable(war, "pass", () -> war.pass(50));
     }
 
-    private static void refuses() {
+    static void promise6Refused() {
         CourierWar war = new CourierWar();
         Check.refused(war, "pass(0)", ARGUMENT, () -> war.pass(0));
         Check.refused(war, "pass(-1)", ARGUMENT, () -> war.pass(-1));
@@ -50,111 +34,90 @@ public final class TurnTest {
         Check.refused(war, "very many", ARGUMENT, () -> war.pass(Integer.MAX_VALUE));
     }
 
-    /** Adds a steady troop of the side 0 that has got an order for the goal, which comes in the next turn. */
-    private static int send(CourierWar war, int cell, int goal) {
-        int number = war.addTroop(0, cell, 9);
-        war.moveGeneral(0, cell);
-        war.order(number, goal);
-        return number;
+    static void promise6MarchesByTheOrderOfNeighbours() {
+        Scenes.walks(Scenes.sent(39, 14), 0, 27, 15, 14, 14);
+        Scenes.walks(Scenes.sent(39, 16), 0, 27, 15, 16, 16);
+        Scenes.walks(Scenes.sent(39, 64), 0, 40, 52, 64, 64);
+        Scenes.walks(Scenes.sent(39, 62), 0, 51, 63, 62, 62);
+        Scenes.walks(Scenes.sent(39, 38), 0, 38, 38);
+        Scenes.walks(Scenes.sent(11, 24), 0, 23, 35, 34, 33);
     }
 
-    private static void walks(CourierWar war, int troop, int... cells) {
-        for (int cell : cells) {
-            war.pass(1);
-            Check.same("troop " + troop + " in the turn " + war.count(0), war.troop(troop, 1), cell);
-        }
-    }
-
-    private static void marchesByTheOrderOfNeighbours() {
-        walks(sent(39, 14), 0, 27, 15, 14, 14);
-        walks(sent(39, 16), 0, 27, 15, 16, 16);
-        walks(sent(39, 64), 0, 40, 52, 64, 64);
-        walks(sent(39, 62), 0, 51, 63, 62, 62);
-        walks(sent(39, 38), 0, 38, 38);
-        walks(sent(11, 24), 0, 23, 35, 34, 33);
-    }
-
-    private static CourierWar sent(int cell, int goal) {
-        CourierWar war = new CourierWar();
-        send(war, cell, goal);
-        return war;
-    }
-
-    private static void marchesRoundOthers() {
-        CourierWar war = sent(0, 2);
+    static void promise6MarchesRoundOthers() {
+        CourierWar war = Scenes.sent(0, 2);
         war.addTroop(0, 1, 9);
-        walks(war, 0, 12, 13, 14, 2, 2);
+        Scenes.walks(war, 0, 12, 13, 14, 2, 2);
         CourierWar before = new CourierWar();
         before.addTroop(0, 1, 9);
-        walks(before, send(before, 0, 2), 12, 13, 14, 2);
-        CourierWar enemies = sent(0, 3);
+        Scenes.walks(before, Scenes.send(before, 0, 2), 12, 13, 14, 2);
+        CourierWar enemies = Scenes.sent(0, 3);
         enemies.addTroop(1, 2, 9);
-        walks(enemies, 0, 1);
-        CourierWar shut = sent(0, 2);
+        Scenes.walks(enemies, 0, 1);
+        CourierWar shut = Scenes.sent(0, 2);
         shut.addTroop(0, 1, 9);
         shut.addTroop(0, 12, 9);
-        walks(shut, 0, 0, 0);
+        Scenes.walks(shut, 0, 0, 0);
     }
 
-    private static void marchesToATakenGoal() {
-        CourierWar beside = sent(0, 1);
+    static void promise6MarchesToATakenGoal() {
+        CourierWar beside = Scenes.sent(0, 1);
         beside.addTroop(0, 1, 9);
-        walks(beside, 0, 0, 0);
-        CourierWar nearer = sent(0, 3);
+        Scenes.walks(beside, 0, 0, 0);
+        CourierWar nearer = Scenes.sent(0, 3);
         nearer.addTroop(0, 3, 9);
-        walks(nearer, 0, 1, 2, 2, 2);
+        Scenes.walks(nearer, 0, 1, 2, 2, 2);
         nearer.order(1, 4);
-        walks(nearer, 0, 2, 3, 3);
+        Scenes.walks(nearer, 0, 2, 3, 3);
     }
 
-    private static void marchesByNumbers() {
+    static void promise6MarchesByNumbers() {
         CourierWar war = new CourierWar();
-        send(war, 0, 2);
-        send(war, 1, 3);
+        Scenes.send(war, 0, 2);
+        Scenes.send(war, 1, 3);
         war.pass(1);
         Check.same("the first one goes round the second one", war.troop(0, 1), 12);
         Check.same("the second one goes on", war.troop(1, 1), 2);
         CourierWar other = new CourierWar();
-        send(other, 1, 3);
-        send(other, 0, 2);
+        Scenes.send(other, 1, 3);
+        Scenes.send(other, 0, 2);
         other.pass(1);
         Check.same("the first one goes on", other.troop(0, 1), 2);
         Check.same("the second one comes behind", other.troop(1, 1), 1);
     }
 
-    private static void marchesOverNoCliff() {
-        CourierWar war = sent(0, 2);
+    static void promise6MarchesOverNoCliff() {
+        CourierWar war = Scenes.sent(0, 2);
         war.shape(1, 1, 3);
-        walks(war, 0, 12, 13, 14, 2);
-        CourierWar slope = sent(0, 2);
+        Scenes.walks(war, 0, 12, 13, 14, 2);
+        CourierWar slope = Scenes.sent(0, 2);
         slope.shape(1, 1, 2);
-        walks(slope, 0, 1, 2);
-        CourierWar shut = sent(0, 2);
+        Scenes.walks(slope, 0, 1, 2);
+        CourierWar shut = Scenes.sent(0, 2);
         shut.shape(0, 0, 3);
-        walks(shut, 0, 0, 0);
-        CourierWar apart = sent(0, 95);
+        Scenes.walks(shut, 0, 0, 0);
+        CourierWar apart = Scenes.sent(0, 95);
         apart.shape(5, 89, 9);
-        walks(apart, 0, 0, 0);
+        Scenes.walks(apart, 0, 0, 0);
         // One least way is shut by a cliff to the first neighbour, the other one is open.
-        CourierWar first = sent(13, 26);
+        CourierWar first = Scenes.sent(13, 26);
         first.shape(14, 14, 3);
-        walks(first, 0, 25, 26);
+        Scenes.walks(first, 0, 25, 26);
     }
 
-    private static void marchesThroughWhereAGoneTroopWas() {
-        CourierWar war = sent(0, 2);
+    static void promise6MarchesThroughWhereAGoneTroopWas() {
+        CourierWar war = Scenes.sent(0, 2);
         war.addTroop(1, 1, 1);
         // From 13 the cell 1 comes before 14, now that its troop is gone.
-        walks(war, 0, 12, 13, 1, 2);
+        Scenes.walks(war, 0, 12, 13, 1, 2);
         Check.same("the other one is gone", war.troop(1, 4), 2);
-        CourierWar fallen = sent(0, 0);
+        CourierWar fallen = Scenes.sent(0, 0);
         fallen.addTroop(1, 1, 1);
         fallen.pass(1);
         fallen.order(0, 2);
-        walks(fallen, 0, 1, 2);
+        Scenes.walks(fallen, 0, 1, 2);
     }
 
-    private static void fights() {
+    static void promise6Fights() {
         CourierWar war = new CourierWar();
         war.addTroop(0, 40, 20);
         war.addTroop(1, 28, 20);
@@ -177,7 +140,7 @@ public final class TurnTest {
         Check.same("no neighbours over the rim", rim.pass(1), 0);
     }
 
-    private static void fightsOnHeights() {
+    static void promise6FightsOnHeights() {
         CourierWar war = new CourierWar();
         war.shape(41, 41, 1);
         war.addTroop(0, 40, 20);
@@ -194,7 +157,7 @@ public final class TurnTest {
         Check.same("as high", war.troop(0, 6), 1);
     }
 
-    private static void fightsAllAtOnce() {
+    static void promise6FightsAllAtOnce() {
         CourierWar war = new CourierWar();
         war.shape(41, 41, 1);
         war.addTroop(0, 40, 1);
@@ -211,7 +174,7 @@ public final class TurnTest {
         Check.same("still gone", war.troop(0, 4), 2);
     }
 
-    private static void isRouted() {
+    static void promise6IsRouted() {
         int[] turns = {2, 1, 3, 2, 4, 2, 5, 3, 20, 10};
         for (int i = 0; i < turns.length; i += 2) {
             CourierWar war = new CourierWar();
@@ -232,36 +195,26 @@ public final class TurnTest {
         Check.same("without strength it is gone, not routed", war.troop(0, 4), 2);
     }
 
-    /** A troop of the side, routed at the cell; its enemy stands at the other cell and has strength enough. */
-    private static CourierWar routed(int side, int cell, int enemy) {
-        CourierWar war = new CourierWar();
-        war.addTroop(side, cell, 2);
-        war.addTroop(1 - side, enemy, 20);
-        war.pass(1);
-        Check.same("routed", war.troop(0, 4), 1);
-        return war;
+    static void promise6FleesToItsSide() {
+        Scenes.walks(Scenes.routed(0, 27, 28), 0, 26, 25, 24, 24);
+        Scenes.walks(Scenes.routed(1, 20, 19), 0, 21, 22, 23, 23);
     }
 
-    private static void fleesToItsSide() {
-        walks(routed(0, 27, 28), 0, 26, 25, 24, 24);
-        walks(routed(1, 20, 19), 0, 21, 22, 23, 23);
-    }
-
-    private static void fleesOnlyWhereItCan() {
-        CourierWar taken = routed(0, 27, 39);
+    static void promise6FleesOnlyWhereItCan() {
+        CourierWar taken = Scenes.routed(0, 27, 39);
         taken.addTroop(0, 26, 20);
-        walks(taken, 0, 27);
+        Scenes.walks(taken, 0, 27);
         Check.same("caught", taken.troop(0, 4), 2);
-        CourierWar cliff = routed(0, 27, 28);
+        CourierWar cliff = Scenes.routed(0, 27, 28);
         cliff.shape(26, 26, 3);
-        walks(cliff, 0, 27);
-        CourierWar slope = routed(0, 27, 28);
+        Scenes.walks(cliff, 0, 27);
+        CourierWar slope = Scenes.routed(0, 27, 28);
         slope.shape(26, 26, 2);
-        walks(slope, 0, 26);
-        CourierWar rim = routed(0, 24, 25);
-        walks(rim, 0, 24);
-        CourierWar otherRim = routed(1, 23, 22);
-        walks(otherRim, 0, 23);
+        Scenes.walks(slope, 0, 26);
+        CourierWar rim = Scenes.routed(0, 24, 25);
+        Scenes.walks(rim, 0, 24);
+        CourierWar otherRim = Scenes.routed(1, 23, 22);
+        Scenes.walks(otherRim, 0, 23);
         CourierWar fallen = new CourierWar();
         fallen.addTroop(0, 40, 2);
         fallen.addTroop(1, 41, 20);
@@ -270,11 +223,11 @@ public final class TurnTest {
         fallen.addTroop(1, 51, 20);
         fallen.pass(1);
         Check.same("a gone troop beside", fallen.troop(2, 4), 2);
-        walks(fallen, 0, 39);
+        Scenes.walks(fallen, 0, 39);
     }
 
-    private static void rallies() {
-        CourierWar war = routed(0, 27, 28);
+    static void promise6Rallies() {
+        CourierWar war = Scenes.routed(0, 27, 28);
         war.order(1, 31);
         war.pass(1);
         Check.same("an enemy in sight", war.troop(0, 4), 1);
@@ -283,7 +236,7 @@ public final class TurnTest {
         Check.same("steady behind the wall", war.troop(0, 4), 0);
         Check.same("its cell", war.troop(0, 1), 25);
         Check.same("is its goal", war.troop(0, 3), 25);
-        CourierWar cliff = routed(0, 27, 28);
+        CourierWar cliff = Scenes.routed(0, 27, 28);
         cliff.shape(28, 28, 9);
         cliff.pass(1);
         Check.same("an enemy in sight on a cliff", cliff.troop(0, 4), 1);
@@ -312,8 +265,8 @@ public final class TurnTest {
         Check.same("steady at", 10 * other.troop(0, 1) + other.troop(0, 4), 210);
     }
 
-    private static void losesOrders() {
-        CourierWar war = routed(0, 27, 28);
+    static void promise6LosesOrders() {
+        CourierWar war = Scenes.routed(0, 27, 28);
         war.order(0, 95);
         war.pass(1);
         Check.same("lost on a routed one", war.count(6), 1);

@@ -3,14 +3,10 @@ public final class UndoTest {
     private static final Class<IllegalStateException> STATE = IllegalStateException.class;
 
     public static void main(String[] args) {
-        keepsFive();
-        bringsAllBack();
-        leavesTheBuffer();
-        savesNothingElse();
-        Check.end("UndoTest");
+        Check.all(UndoTest.class);
     }
 
-    private static void keepsFive() {
+    static void promise11KeepsFive() {
         CourierWar war = new CourierWar();
         Check.refused(war, "nothing to undo", STATE, () -> war.undo());
         for (int i = 1; i <= 8; i++) {
@@ -33,7 +29,7 @@ public final class UndoTest {
         Check.same("back at", war.count(11), 3);
     }
 
-    private static void bringsAllBack() {
+    static void promise11BringsAllBack() {
         CourierWar war = new CourierWar();
         war.shape(1, 85, 2);
         war.addTroop(0, 40, 6);
@@ -68,7 +64,7 @@ public final class UndoTest {
         Check.same("not lost", routed.count(6), 0);
     }
 
-    private static void leavesTheBuffer() {
+    static void promise11LeavesTheBuffer() {
         CourierWar war = new CourierWar();
         Check.type(war, "0>1");
         war.moveGeneral(0, 5);
@@ -81,7 +77,7 @@ public final class UndoTest {
         Check.same("still clear", war.clearBuffer(), 0);
     }
 
-    private static void savesNothingElse() {
+    static void promise11SavesNothingElse() {
         CourierWar war = new CourierWar();
         war.addTroop(0, 4, 5);
         Check.type(war, "0>1,1");
