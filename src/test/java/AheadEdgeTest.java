@@ -341,83 +341,20 @@ public final class AheadEdgeTest {
 
     // ---- promise 23
 
-    /** Compares the digest with the one that the other methods tell, in parts, as no object has more than 512 calls. */
-    private static void digest(String what, Supplier<CourierWar> made, String buffer) {
-        CourierWar war = made.get();
-        long first = war.digest();
-        Check.same(what + ", once more", war.digest(), first);
-        long hash = counts(2243, made.get());
-        hash = cells(hash, made.get());
-        hash = troops(hash, made.get());
-        hash = rest(hash, made.get(), buffer);
-        Check.same(what, first, hash);
-    }
-
-    private static long counts(long start, CourierWar war) {
-        long hash = start;
-        for (int what = 0; what <= 13; what++) {
-            hash = 31 * hash + war.count(what);
-        }
-        return hash;
-    }
-
-    private static long cells(long start, CourierWar war) {
-        long hash = start;
-        for (int cell = 0; cell < 96; cell++) {
-            for (int what = 0; what <= 2; what++) {
-                hash = 31 * hash + war.cell(cell, what);
-            }
-        }
-        return hash;
-    }
-
-    private static long troops(long start, CourierWar war) {
-        long hash = start;
-        int troops = war.count(1);
-        for (int troop = 0; troop < troops; troop++) {
-            for (int what = 0; what <= 8; what++) {
-                hash = 31 * hash + war.troop(troop, what);
-            }
-            hash = 31 * hash + war.why(troop);
-        }
-        return hash;
-    }
-
-    private static long rest(long start, CourierWar war, String buffer) {
-        long hash = start;
-        int orders = war.count(5);
-        for (int place = 0; place < orders; place++) {
-            for (int what = 0; what <= 3; what++) {
-                hash = 31 * hash + war.underWay(place, what);
-            }
-        }
-        hash = 31 * hash + war.cell(war.count(11), 3);
-        hash = 31 * hash + war.cell(war.count(12), 3);
-        for (int what : AHEAD) {
-            hash = 31 * hash + war.ifPassed(10, what);
-        }
-        hash = 31 * hash + Double.doubleToLongBits(war.strengthLeft());
-        hash = 31 * hash + buffer.length();
-        for (int i = 0; i < buffer.length(); i++) {
-            hash = 31 * hash + buffer.charAt(i);
-        }
-        return hash;
-    }
-
     @Says("The hash starts at 2243.")
     static void promise23NewObject() {
-        digest("nothing there", CourierWar::new, "");
+        Digests.told("nothing there", CourierWar::new, "");
     }
 
     @Says("the length of the buffer and each of its character codes")
     static void promise23FullBuffer() {
         String buffer = "!~".repeat(30);
-        digest("sixty characters", () -> {
+        Digests.told("sixty characters", () -> {
             CourierWar war = new CourierWar();
             Check.type(war, buffer);
             return war;
         }, buffer);
-        digest("one character", () -> {
+        Digests.told("one character", () -> {
             CourierWar war = new CourierWar();
             Check.type(war, "~");
             return war;
@@ -426,7 +363,7 @@ public final class AheadEdgeTest {
 
     @Says("for each troop its properties 0 to 8, and why; for each order under way its properties 0 to 3")
     static void promise23TwelveTroopsAndThirtyOrders() {
-        digest("as full as it can be", () -> {
+        Digests.told("as full as it can be", () -> {
             CourierWar war = Scenes.ridge();
             war.shape(30, 54, 7);
             for (int i = 0; i < 12; i++) {
@@ -442,7 +379,7 @@ public final class AheadEdgeTest {
 
     @Says("ifPassed with 10 turns for 2, 3, and 6 to 10")
     static void promise23BeyondTheTurn1000() {
-        digest("at the last turn", () -> {
+        Digests.told("at the last turn", () -> {
             CourierWar war = Scenes.atTurn(1000);
             war.addTroop(0, 40, 20);
             war.addTroop(1, 41, 6);
@@ -452,7 +389,7 @@ public final class AheadEdgeTest {
 
     @Says("the bits of strengthLeft (as Double.doubleToLongBits)")
     static void promise23ShareNone() {
-        digest("all are gone", () -> {
+        Digests.told("all are gone", () -> {
             CourierWar war = new CourierWar();
             war.addTroop(0, 40, 1);
             war.addTroop(1, 41, 1);
@@ -463,7 +400,7 @@ public final class AheadEdgeTest {
 
     @Says("the bits of strengthLeft (as Double.doubleToLongBits)")
     static void promise23ShareAll() {
-        digest("all is left", () -> {
+        Digests.told("all is left", () -> {
             CourierWar war = new CourierWar();
             war.addTroop(0, 40, 20);
             return war;
@@ -490,7 +427,7 @@ public final class AheadEdgeTest {
         Check.same("1 of 239", war.strengthLeft(), 1.0 / 239.0);
         for (int turns = 1; turns <= 20; turns++) {
             int passed = turns;
-            digest("after " + turns, () -> {
+            Digests.told("after " + turns, () -> {
                 CourierWar pits = pits();
                 pits.pass(passed);
                 return pits;
@@ -500,7 +437,7 @@ public final class AheadEdgeTest {
 
     @Says("the number of cells that the general of the side 0 and of the side 1 see")
     static void promise23GeneralsInPits() {
-        digest("nine cells and four", () -> {
+        Digests.told("nine cells and four", () -> {
             CourierWar war = new CourierWar();
             war.shape(0, 95, 9);
             war.shape(50, 50, 0);

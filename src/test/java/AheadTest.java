@@ -158,73 +158,37 @@ public final class AheadTest {
         Check.refused(war, "arrivesIn(12)", INDEX, () -> war.arrivesIn(12));
     }
 
-    /** An object for each digest, as it is told by some 350 calls and no more than 512 are promised. */
     static void promise23Digest() {
-        digest("of a new object", new CourierWar(), "");
-        CourierWar typed = new CourierWar();
-        Check.type(typed, "0>~");
-        digest("with a buffer", typed, "0>~");
         for (int turns = 0; turns <= 8; turns++) {
-            CourierWar war = new CourierWar();
-            Check.type(war, "!~");
-            war.shape(1, 85, 2);
-            war.shape(40, 40, 7);
-            war.addTroop(0, 40, 7);
-            war.addTroop(1, 41, 3);
-            war.addTroop(0, 95, 20);
-            war.order(2, 30);
-            war.order(1, 5);
-            for (int i = 0; i < turns; i++) {
-                war.pass(1);
-            }
-            digest("after " + turns + " turns", war, "!~");
+            int passed = turns;
+            Digests.told("after " + turns + " turns", () -> fought(passed), "!~");
         }
         for (int turns = 1; turns <= 22; turns++) {
-            CourierWar pit = Scenes.pit();
-            pit.pass(turns);
-            Check.same("share after " + turns, pit.strengthLeft(), Math.max(0, 20 - turns) / 20.0);
-            digest("in the pit after " + turns, pit, "");
+            int passed = turns;
+            Check.same("share after " + turns, inThePit(turns).strengthLeft(), Math.max(0, 20 - turns) / 20.0);
+            Digests.told("in the pit after " + turns, () -> inThePit(passed), "");
         }
     }
 
-    private static void digest(String what, CourierWar war, String buffer) {
-        long first = war.digest();
-        Check.same(what, first, told(war, buffer));
-        Check.same(what + ", once more", war.digest(), first);
+    private static CourierWar fought(int turns) {
+        CourierWar war = new CourierWar();
+        Check.type(war, "!~");
+        war.shape(1, 85, 2);
+        war.shape(40, 40, 7);
+        war.addTroop(0, 40, 7);
+        war.addTroop(1, 41, 3);
+        war.addTroop(0, 95, 20);
+        war.order(2, 30);
+        war.order(1, 5);
+        for (int i = 0; i < turns; i++) {
+            war.pass(1);
+        }
+        return war;
     }
 
-    /** The digest as the document tells it, by the other methods. */
-    private static long told(CourierWar war, String buffer) {
-        long hash = 2243;
-        for (int what = 0; what <= 13; what++) {
-            hash = 31 * hash + war.count(what);
-        }
-        for (int cell = 0; cell < 96; cell++) {
-            for (int what = 0; what <= 2; what++) {
-                hash = 31 * hash + war.cell(cell, what);
-            }
-        }
-        for (int troop = 0; troop < war.count(1); troop++) {
-            for (int what = 0; what <= 8; what++) {
-                hash = 31 * hash + war.troop(troop, what);
-            }
-            hash = 31 * hash + war.why(troop);
-        }
-        for (int place = 0; place < war.count(5); place++) {
-            for (int what = 0; what <= 3; what++) {
-                hash = 31 * hash + war.underWay(place, what);
-            }
-        }
-        hash = 31 * hash + war.cell(war.count(11), 3);
-        hash = 31 * hash + war.cell(war.count(12), 3);
-        for (int what : new int[] {2, 3, 6, 7, 8, 9, 10}) {
-            hash = 31 * hash + war.ifPassed(10, what);
-        }
-        hash = 31 * hash + Double.doubleToLongBits(war.strengthLeft());
-        hash = 31 * hash + buffer.length();
-        for (int i = 0; i < buffer.length(); i++) {
-            hash = 31 * hash + buffer.charAt(i);
-        }
-        return hash;
+    private static CourierWar inThePit(int turns) {
+        CourierWar war = Scenes.pit();
+        war.pass(turns);
+        return war;
     }
 }

@@ -76,27 +76,4 @@ public final class UndoTest {
         war.undo();
         Check.same("still clear", war.clearBuffer(), 0);
     }
-
-    static void promise11SavesNothingElse() {
-        CourierWar war = new CourierWar();
-        war.addTroop(0, 4, 5);
-        Check.type(war, "0>1,1");
-        war.firstError();
-        war.clearBuffer();
-        war.cell(0, 3);
-        war.troop(0, 7);
-        war.count(1);
-        war.sees(0, 5);
-        war.distance(0, 5);
-        war.why(0);
-        war.bestPost(0);
-        war.ifPassed(9, 7);
-        war.arrivesIn(0);
-        war.strengthLeft();
-        war.digest();
-        Check.thrown(() -> war.order(0, 96));
-        Check.thrown(() -> war.pass(0));
-        Check.thrown(() -> war.load());
-        Check.same("saved", war.count(13), 1);
-    }
 }
