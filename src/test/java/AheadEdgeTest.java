@@ -1,6 +1,6 @@
 import java.util.function.Supplier;
 
-/** Promises 19 to 21 and 23, sentence by sentence: the first and the last post, no turn and the most, and all values. */
+/** Promises 19 to 21 and 23, sentence by sentence: the first and the last post, no turn and the most. */
 public final class AheadEdgeTest {
     private static final Class<IndexOutOfBoundsException> INDEX = IndexOutOfBoundsException.class;
     private static final Class<IllegalArgumentException> ARGUMENT = IllegalArgumentException.class;

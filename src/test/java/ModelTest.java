@@ -190,7 +190,8 @@ public final class ModelTest {
             return;
         }
         // At war the sides meet in the middle; in peace they begin apart.
-        int cell = upTo(20) == 0 ? about(96) : upTo(8) * 12 + (peace == 0 ? upTo(12) : side == 0 ? upTo(5) : 4 + upTo(5));
+        int cell = upTo(20) == 0 ? about(96)
+                : upTo(8) * 12 + (peace == 0 ? upTo(12) : side == 0 ? upTo(5) : 4 + upTo(5));
         int strength = upTo(20) == 0 ? about(21) : 1 + upTo(run % 4 == 1 ? 3 : 20);
         both("addTroop", () -> war.addTroop(side, cell, strength), () -> model.addTroop(side, cell, strength));
     }

@@ -1,4 +1,4 @@
-/** Promises 7 to 10, sentence by sentence: the empty and the full buffer, where texts end, and which orders are given. */
+/** Promises 7 to 10, sentence by sentence: the empty and the full buffer, and where texts end. */
 public final class TextEdgeTest {
     private static final Class<IllegalArgumentException> ARGUMENT = IllegalArgumentException.class;
     private static final Class<IllegalStateException> STATE = IllegalStateException.class;
@@ -266,8 +266,11 @@ public final class TextEdgeTest {
 
     @Says("Throws `IllegalArgumentException` if the buffer is not a complete text")
     static void promise10SyntaxErrors() {
-        for (String text : new String[] {"~", "0>0,0x", "x0>0,0", "0>0,8", "0>12,0", "12>0,0", "00>0,0", "0>0,00", "xx0>0,0",
-            "0>0,0~~1>1,1", "0>0,0~;0>0,0"}) {
+        String[] texts = {
+            "~", "0>0,0x", "x0>0,0", "0>0,8", "0>12,0", "12>0,0", "00>0,0", "0>0,00", "xx0>0,0", "0>0,0~~1>1,1",
+            "0>0,0~;0>0,0",
+        };
+        for (String text : texts) {
             refusedText(text);
         }
     }

@@ -1,6 +1,6 @@
 import java.util.Arrays;
 
-/** Promise 6, sentence by sentence: the fewest and the most turns, and where marches, fights and routs begin and end. */
+/** Promise 6, sentence by sentence: where turns, marches, fights and routs begin and end. */
 public final class TurnEdgeTest {
     private static final Class<IllegalArgumentException> ARGUMENT = IllegalArgumentException.class;
     private static final Class<IllegalStateException> STATE = IllegalStateException.class;
