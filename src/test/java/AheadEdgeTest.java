@@ -152,6 +152,30 @@ public final class AheadEdgeTest {
         return made.get().troop(troop, 1);
     }
 
+    @Says("generals do not fight, and share cells with others")
+    static void promise19OnATakenCell() {
+        for (int side = 0; side <= 1; side++) {
+            CourierWar war = new CourierWar();
+            war.shape(0, 95, 9);
+            war.shape(50, 50, 0);
+            war.addTroop(0, 50, 5);
+            war.addTroop(side, 37, 5);
+            Check.same("where one of the side " + side + " stands", war.bestPost(0), 37);
+        }
+    }
+
+    @Says("the least number of steps from one to the other, whoever stands there")
+    static void promise19PastWhoeverStandsThere() {
+        CourierWar war = Scenes.winding();
+        war.addTroop(0, 0, 5);
+        war.addTroop(0, 11, 5);
+        int best = war.bestPost(0);
+        for (int cell : new int[] {24, 39, 53, 68, 70, 47}) {
+            war.addTroop(1, cell, 5);
+        }
+        Check.same("past enemies", war.bestPost(0), best);
+    }
+
     @Says("what would be; nothing is changed")
     static void promise19ChangesNothing() {
         CourierWar war = cut(47);
@@ -274,6 +298,16 @@ public final class AheadEdgeTest {
         war.pass(50);
         war.pass(9);
         Check.same("94 are done", war.arrivesIn(0), 1);
+    }
+
+    @Says("Tells when a troop would be at its goal without further orders.")
+    static void promise21BeyondTheTurn1000() {
+        CourierWar war = Scenes.atTurn(999);
+        war.addTroop(0, 0, 5);
+        war.order(0, 5);
+        Scenes.walks(war, 0, 1);
+        Check.same("the turn", war.count(0), 1000);
+        Check.same("four steps are left", war.arrivesIn(0), 4);
     }
 
     @Says("NONE if there is none")

@@ -386,6 +386,15 @@ public final class FieldEdgeTest {
         Check.same("diagonal ones are no neighbours", war.cell(27, 2), 4);
     }
 
+    @Says("how many of its neighbours one can step to")
+    static void promise12TakenNeighbours() {
+        CourierWar war = new CourierWar();
+        war.addTroop(0, 28, 5);
+        war.addTroop(1, 41, 5);
+        Check.same("whoever stands beside it", war.cell(40, 2), 4);
+        Check.same("or in it", war.cell(41, 2), 4);
+    }
+
     @Says("how many cells it sees, itself among them")
     static void promise12SeesAll() {
         CourierWar war = new CourierWar();

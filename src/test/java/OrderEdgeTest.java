@@ -137,6 +137,17 @@ public final class OrderEdgeTest {
         Check.same("come", war.troop(0, 8), 1);
     }
 
+    @Says("the least number of steps from one to the other, whoever stands there")
+    static void promise5PastWhoeverStandsThere() {
+        CourierWar war = Scenes.winding();
+        war.addTroop(0, 11, 5);
+        war.addTroop(1, 24, 5);
+        Check.same("past an enemy", war.order(0, 0), 32);
+        war.addTroop(0, 60, 5);
+        Check.same("and a friend", war.order(0, 0), 32);
+        Check.same("nothing stands against it", war.why(0), 0);
+    }
+
     @Says("it is given by the general of the troop's side")
     static void promise5BothGenerals() {
         CourierWar war = Scenes.ridge();

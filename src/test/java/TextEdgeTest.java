@@ -369,6 +369,15 @@ public final class TextEdgeTest {
         Check.same("just up to thirty", just.load(), 2);
     }
 
+    @Says("as long as none of them would throw an exception")
+    static void promise10BeyondTheLastTurn() {
+        CourierWar war = Scenes.atTurn(1000);
+        war.addTroop(0, 4, 5);
+        Check.type(war, "0>0,0;0>1,0");
+        Check.same("given", war.load(), 2);
+        Check.same("for a turn that can't be", war.underWay(1, 3), 1001);
+    }
+
     @Says("Undoable, as one call, also if the first order is refused.")
     static void promise10UndoneAsOneCall() {
         CourierWar war = ready("0>0,0;0>1,0;0>2,0");

@@ -252,6 +252,24 @@ public final class TroopEdgeTest {
     }
 
     @Says("what it lost in the latest turn, 0 before any")
+    static void promise13LossStandsUntilTheNextTurn() {
+        CourierWar war = new CourierWar();
+        war.addTroop(0, 50, 20);
+        war.addTroop(1, 51, 20);
+        war.pass(1);
+        war.shape(0, 95, 3);
+        war.moveGeneral(0, 44);
+        war.addTroop(0, 0, 5);
+        war.order(0, 49);
+        Check.type(war, "1>0,0");
+        Check.same("loaded", war.load(), 1);
+        Check.same("after all other calls", war.troop(0, 6), 1);
+        Check.same("of the other side", war.troop(1, 6), 1);
+        war.pass(1);
+        Check.same("after the next turn", war.troop(0, 6), 0);
+    }
+
+    @Says("what it lost in the latest turn, 0 before any")
     static void promise13LostMost() {
         CourierWar war = new CourierWar();
         war.shape(38, 40, 1);

@@ -235,6 +235,17 @@ public final class TurnEdgeTest {
     }
 
     @Says("over cells in which no other troop is that is not gone")
+    static void promise6RoundARoutedOne() {
+        CourierWar war = routedByTheFallen();
+        war.addTroop(1, 95, 20);
+        Scenes.walks(war, 0, 39, 38, 37, 36, 36);
+        int friend = Scenes.send(war, 24, 48);
+        Scenes.walks(war, friend, 25, 37, 49, 48);
+        Check.same("routed all the while", war.troop(0, 4), 1);
+        Check.same("in the way", war.troop(0, 1), 36);
+    }
+
+    @Says("over cells in which no other troop is that is not gone")
     static void promise6OverAGoneTroop() {
         CourierWar war = Scenes.gone();
         war.order(1, 49);
@@ -263,6 +274,17 @@ public final class TurnEdgeTest {
         Scenes.walks(war, 0, 0, 0);
         war.shape(0, 0, 2);
         Scenes.walks(war, 0, 1);
+    }
+
+    @Says("generals do not fight, and share cells with others")
+    static void promise6OverGenerals() {
+        CourierWar war = Scenes.sent(0, 3);
+        war.moveGeneral(0, 1);
+        war.moveGeneral(1, 2);
+        Scenes.walks(war, 0, 1, 2, 3);
+        Check.same("the general of its side stays", war.count(11), 1);
+        Check.same("the one of the other side stays", war.count(12), 2);
+        Check.same("nothing is lost", war.count(7) + war.count(8), 0);
     }
 
     @Says("(but the goal itself may be taken)")
@@ -395,6 +417,19 @@ public final class TurnEdgeTest {
         CourierWar enemy = Scenes.routed(0, 27, 28);
         enemy.addTroop(1, 26, 20);
         Scenes.walks(enemy, 0, 27);
+    }
+
+    @Says("if there is a cell, one can step there, and it is free; otherwise it stays")
+    static void promise6FleesNotToARoutedFriend() {
+        CourierWar war = new CourierWar();
+        war.addTroop(0, 24, 4);
+        war.addTroop(0, 25, 4);
+        war.addTroop(1, 12, 20);
+        war.addTroop(1, 13, 20);
+        war.pass(2);
+        Check.same("both are routed", war.count(3), 2);
+        Scenes.walks(war, 1, 25);
+        Check.same("the one at the rim", war.troop(0, 1), 24);
     }
 
     @Says("if there is a cell, one can step there, and it is free; otherwise it stays")
@@ -672,6 +707,22 @@ public final class TurnEdgeTest {
     }
 
     @Says("whose cell does not see the cell of any enemy, is steady")
+    static void promise6NoRallyInSightOfARoutedEnemy() {
+        CourierWar war = new CourierWar();
+        war.addTroop(0, 39, 2);
+        war.addTroop(1, 40, 2);
+        war.pass(2);
+        Check.same("the first one has fled", war.troop(0, 1), 38);
+        Check.same("and is routed", war.troop(0, 4), 1);
+        Check.same("the second one has fled", war.troop(1, 1), 41);
+        Check.same("and is routed", war.troop(1, 4), 1);
+        war.shape(4, 88, 9);
+        war.pass(1);
+        Check.same("the first one, out of sight", war.troop(0, 4), 0);
+        Check.same("the second one, out of sight", war.troop(1, 4), 0);
+    }
+
+    @Says("whose cell does not see the cell of any enemy, is steady")
     static void promise6FirstAndLastEnemyInSight() {
         CourierWar first = new CourierWar();
         first.addTroop(1, 28, 20);
@@ -733,6 +784,21 @@ public final class TurnEdgeTest {
         war.pass(1);
         Check.same("the one in sight is gone", war.troop(5, 4), 2);
         Check.same("steady", war.troop(0, 4), 0);
+    }
+
+    @Says("A routed troop that lost nothing in this turn")
+    static void promise6RallyAtTheRim() {
+        for (int side = 0; side <= 1; side++) {
+            int cell = side == 0 ? 36 : 47;
+            CourierWar war = new CourierWar();
+            war.addTroop(side, cell, 4);
+            war.addTroop(1 - side, cell - 12, 1);
+            war.addTroop(1 - side, cell + 12, 1);
+            war.pass(1);
+            Check.same("routed, side " + side, war.troop(0, 4), 1);
+            Scenes.walks(war, 0, cell);
+            Check.same("steady where it stayed, side " + side, war.troop(0, 4), 0);
+        }
     }
 
     @Says("is steady, and its goal is its cell")

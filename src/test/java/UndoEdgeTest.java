@@ -135,6 +135,8 @@ public final class UndoEdgeTest {
     static void promise11CallsThatAreNotUndoable() {
         CourierWar war = new CourierWar();
         war.addTroop(0, 4, 5);
+        war.order(0, 9);
+        war.underWay(0, 3);
         war.append('0');
         war.firstError();
         war.clearBuffer();
@@ -149,8 +151,10 @@ public final class UndoEdgeTest {
         war.arrivesIn(0);
         war.strengthLeft();
         war.digest();
-        Check.same("saved", war.count(13), 1);
-        Check.same("undone", war.undo(), 0);
+        Check.same("saved", war.count(13), 2);
+        Check.same("the order undone", war.undo(), 1);
+        Check.same("without the order", war.count(4), 0);
+        Check.same("the troop undone", war.undo(), 0);
         Check.same("without the troop", war.count(1), 0);
     }
 
